@@ -21,6 +21,7 @@ public final class ChainTest {
         acceptTakesSoundHistories();
         acceptRefusesUnsoundHistories();
         acceptLooksAtTheContract();
+        acceptLooksAtTheLastBlock();
         EXPECT.end();
     }
 
@@ -209,6 +210,12 @@ public final class ChainTest {
         EXPECT.yes("5: fits", x.block(5, 4) != 0);
         EXPECT.same("5: none waits any more", x.build(true, true), 6);
         EXPECT.same("5: none waits any more", x.block(6, 0), 0);
+        x.deposit(2, 5);
+        x.forge(3, 7, 2, 2, 2);
+        x.build(false, true);
+        EXPECT.yes("5: sent with the PREV of old", x.send(2, 3, 1));
+        x.build(true, true);
+        EXPECT.same("5: PREV is not the latest, though FROM is its TO", x.block(9, 0), 0);
     }
 
     private static void honestBuildLooksAtExits() {
@@ -352,5 +359,17 @@ public final class ChainTest {
         x.finalise(0);
         EXPECT.same("7: gone", x.accept(0, 0), CoinChild.NOT_SO);
         EXPECT.same("7: still held", x.user(0, 1), 1);
+    }
+
+    private static void acceptLooksAtTheLastBlock() {
+        CoinChild x = new CoinChild(2, 8);
+        x.deposit(0, 5);
+        for (int b = 2; b < 24; b++) {
+            x.build(true, true);
+        }
+        x.forge(0, 1, 3, 1, 3);
+        EXPECT.same("7: the last block", x.build(false, true), 24);
+        EXPECT.same("7: it is unsound", x.accept(1, 0), CoinChild.NOT_SO);
+        EXPECT.same("7: it has the last entry", x.accept(0, 0), CoinChild.NOT_SO);
     }
 }

@@ -15,6 +15,7 @@ public final class WatchTest {
         answersAllChallenges();
         refusedCallsDoNotCount();
         leavesCoinsThatAreGone();
+        looksUpToTheLastBlock();
         EXPECT.end();
     }
 
@@ -127,6 +128,14 @@ public final class WatchTest {
         EXPECT.same("14: held since A", x.user(0, 1), 1);
         EXPECT.same("14: A is h", x.watch(0), 0);
         EXPECT.same("14: open", x.coin(0, 2), 2);
+        CoinChild y = new CoinChild(1, 8);
+        y.deposit(0, 5);
+        transfer(y, 1, 0, 1);
+        transfer(y, 1, 0, 2);
+        y.exit(2, 0, 3);
+        EXPECT.same("14: A is h, though BETWEEN would do", y.watch(0), 0);
+        EXPECT.same("14: open", y.coin(0, 2), 3);
+        EXPECT.same("10: between", y.between(0, 0, 2), 0);
     }
 
     private static void challengesItsOwnOldExit() {
@@ -194,5 +203,23 @@ public final class WatchTest {
         x.build(true, false);
         EXPECT.same("14: held by the user", x.user(0, 1), 1);
         EXPECT.same("14: but gone", x.watch(0), 0);
+    }
+
+    private static void looksUpToTheLastBlock() {
+        CoinChild x = new CoinChild(1, 8);
+        x.deposit(0, 5);
+        for (int b = 2; b < 24; b++) {
+            x.build(true, true);
+        }
+        EXPECT.same("14: all shown", x.watch(0), 0);
+        x.forge(0, 1, 0, 1, 0);
+        EXPECT.same("14: the last block", x.build(false, false), 24);
+        EXPECT.same("14: it is withheld", x.watch(0), 1);
+        x.after(2, 0, 24);
+        x.show(24);
+        EXPECT.same("14: accepted", x.accept(1, 0), 24);
+        x.exit(0, 0, 1);
+        EXPECT.same("14: after, with the last block", x.watch(1), 1);
+        EXPECT.same("14: bond", x.user(1, 0), 110);
     }
 }
