@@ -26,22 +26,6 @@ public final class ExitTest {
         EXPECT.end();
     }
 
-    /** A coin that goes 0 (block 1), 1 (block 2), 2 (block 3), 3 (block 4), all in good order. */
-    private static CoinChild handedOn(int period) {
-        CoinChild x = new CoinChild(17, period);
-        x.deposit(0, 20);
-        for (int b = 1; b <= 3; b++) {
-            transfer(x, b, b - 1, b);
-        }
-        return x;
-    }
-
-    /** Puts a good transfer of coin 0 into a block of its own. */
-    private static int transfer(CoinChild x, int prev, int from, int to) {
-        x.forge(0, prev, from, to, from);
-        return x.build(false, true);
-    }
-
     private static void open(String what, CoinChild x, int user, int target, int source) {
         EXPECT.same(what + ": user", x.coin(0, 2), user + 1);
         EXPECT.same(what + ": B", x.coin(0, 3), target);
@@ -55,7 +39,7 @@ public final class ExitTest {
     }
 
     private static void exitOfDeposit() {
-        CoinChild x = handedOn(8);
+        CoinChild x = Chains.handedOn(8);
         x.tick(5);
         EXPECT.same("8: deposit", x.exit(0, 0, 1), 0);
         open("8: deposit", x, 0, 1, 0);
@@ -66,7 +50,7 @@ public final class ExitTest {
     }
 
     private static void exitOfTransfer() {
-        CoinChild x = handedOn(8);
+        CoinChild x = Chains.handedOn(8);
         EXPECT.same("8: transfer", x.exit(2, 0, 3), 0);
         open("8: transfer", x, 2, 3, 2);
         EXPECT.same("8: bond", x.user(2, 0), 90);
@@ -78,7 +62,7 @@ public final class ExitTest {
     }
 
     private static void exitRefuses() {
-        CoinChild x = handedOn(4);
+        CoinChild x = Chains.handedOn(4);
         EXPECT.same("8: user", x.exit(-1, 0, 1), CoinChild.BAD);
         EXPECT.same("8: user", x.exit(4, 0, 1), CoinChild.BAD);
         EXPECT.same("8: coin", x.exit(0, -1, 1), CoinChild.BAD);
@@ -106,15 +90,20 @@ public final class ExitTest {
         x.forge(0, 1, 0, 1, 1);
         x.build(false, true);
         EXPECT.same("8: not good", x.exit(1, 0, 3), CoinChild.UNPROVEN);
-        EXPECT.same("8: spends one not good", x.exit(2, 0, transfer(x, 3, 1, 2)), CoinChild.UNPROVEN);
-        EXPECT.same("8: spends none", x.exit(2, 0, transfer(x, 2, 0, 2)), CoinChild.UNPROVEN);
-        EXPECT.same("8: spends itself", x.exit(2, 0, transfer(x, 6, 2, 2)), CoinChild.UNPROVEN);
-        EXPECT.same("8: spends a later one", x.exit(2, 0, transfer(x, 8, 2, 2)), CoinChild.UNPROVEN);
-        transfer(x, 1, 0, 2);
+        EXPECT.same("8: spends one not good",
+                x.exit(2, 0, Chains.transfer(x, 3, 1, 2)), CoinChild.UNPROVEN);
+        EXPECT.same("8: spends none",
+                x.exit(2, 0, Chains.transfer(x, 2, 0, 2)), CoinChild.UNPROVEN);
+        EXPECT.same("8: spends itself",
+                x.exit(2, 0, Chains.transfer(x, 6, 2, 2)), CoinChild.UNPROVEN);
+        EXPECT.same("8: spends a later one",
+                x.exit(2, 0, Chains.transfer(x, 8, 2, 2)), CoinChild.UNPROVEN);
+        Chains.transfer(x, 1, 0, 2);
         EXPECT.same("8: later one stands", x.exit(2, 0, 7), CoinChild.UNPROVEN);
-        EXPECT.same("8: FROM is another", x.exit(3, 0, transfer(x, 8, 1, 3)), CoinChild.UNPROVEN);
-        EXPECT.same("8: PREV 0", x.exit(3, 0, transfer(x, 0, 0, 3)), CoinChild.UNPROVEN);
-        EXPECT.same("8: PREV 31", x.exit(3, 0, transfer(x, 31, 0, 3)), CoinChild.UNPROVEN);
+        EXPECT.same("8: FROM is another",
+                x.exit(3, 0, Chains.transfer(x, 8, 1, 3)), CoinChild.UNPROVEN);
+        EXPECT.same("8: PREV 0", x.exit(3, 0, Chains.transfer(x, 0, 0, 3)), CoinChild.UNPROVEN);
+        EXPECT.same("8: PREV 31", x.exit(3, 0, Chains.transfer(x, 31, 0, 3)), CoinChild.UNPROVEN);
         EXPECT.same("8: a second spending", x.exit(2, 0, 8), 0);
     }
 
@@ -134,7 +123,7 @@ public final class ExitTest {
     }
 
     private static void afterCancels() {
-        CoinChild x = handedOn(8);
+        CoinChild x = Chains.handedOn(8);
         x.exit(1, 0, 2);
         EXPECT.same("9: after", x.after(3, 0, 3), 0);
         closed("9: cancelled", x);
@@ -149,7 +138,7 @@ public final class ExitTest {
     }
 
     private static void afterRefuses() {
-        CoinChild x = handedOn(8);
+        CoinChild x = Chains.handedOn(8);
         EXPECT.same("9: none open", x.after(3, 0, 3), CoinChild.NOT_SO);
         x.exit(1, 0, 2);
         EXPECT.same("9: user", x.after(-1, 0, 3), CoinChild.BAD);
@@ -164,15 +153,16 @@ public final class ExitTest {
         x.forge(0, 2, 1, 3, 3);
         x.build(false, true);
         EXPECT.same("9: not good", x.after(0, 0, 5), CoinChild.UNPROVEN);
-        EXPECT.same("9: another FROM", x.after(0, 0, transfer(x, 2, 0, 3)), CoinChild.UNPROVEN);
+        EXPECT.same("9: another FROM",
+                x.after(0, 0, Chains.transfer(x, 2, 0, 3)), CoinChild.UNPROVEN);
         x.build(true, true);
         EXPECT.same("9: no entry", x.after(0, 0, 7), CoinChild.UNPROVEN);
         open("9: still open", x, 1, 2, 1);
     }
 
     private static void betweenCancels() {
-        CoinChild x = handedOn(8);
-        transfer(x, 2, 1, 0);
+        CoinChild x = Chains.handedOn(8);
+        Chains.transfer(x, 2, 1, 0);
         EXPECT.same("10: exit of a double spend", x.exit(0, 0, 5), 0);
         EXPECT.same("10: between", x.between(2, 0, 3), 0);
         closed("10: cancelled", x);
@@ -181,8 +171,8 @@ public final class ExitTest {
     }
 
     private static void betweenRefuses() {
-        CoinChild x = handedOn(8);
-        transfer(x, 2, 1, 0);
+        CoinChild x = Chains.handedOn(8);
+        Chains.transfer(x, 2, 1, 0);
         EXPECT.same("10: none open", x.between(2, 0, 3), CoinChild.NOT_SO);
         x.exit(0, 0, 1);
         EXPECT.same("10: A is 0", x.between(2, 0, 2), CoinChild.UNPROVEN);
@@ -201,7 +191,7 @@ public final class ExitTest {
     }
 
     private static void beforeOpensOneByBlock() {
-        CoinChild x = handedOn(8);
+        CoinChild x = Chains.handedOn(8);
         x.exit(3, 0, 4);
         EXPECT.same("11: by 1", x.before(0, 0, 1), 0);
         EXPECT.same("11: by 2", x.before(1, 0, 2), 0);
@@ -216,7 +206,7 @@ public final class ExitTest {
     }
 
     private static void beforeHasItsTime() {
-        CoinChild x = handedOn(9);
+        CoinChild x = Chains.handedOn(9);
         x.tick(7);
         x.exit(3, 0, 4);
         x.tick(4);
@@ -228,13 +218,13 @@ public final class ExitTest {
     }
 
     private static void beforeRefuses() {
-        CoinChild x = handedOn(8);
+        CoinChild x = Chains.handedOn(8);
         EXPECT.same("11: none open", x.before(0, 0, 1), CoinChild.NOT_SO);
         x.forge(0, 4, 3, 0, 1);
         x.build(false, true);
         x.build(true, true);
-        transfer(x, 4, 3, 1);
-        transfer(x, 7, 1, 2);
+        Chains.transfer(x, 4, 3, 1);
+        Chains.transfer(x, 7, 1, 2);
         EXPECT.same("11: exit", x.exit(2, 0, 8), 0);
         EXPECT.same("11: user", x.before(-1, 0, 1), CoinChild.BAD);
         EXPECT.same("11: user", x.before(4, 0, 1), CoinChild.BAD);
@@ -248,13 +238,13 @@ public final class ExitTest {
         EXPECT.same("11: none is open", x.coin(0, 6), 0);
         EXPECT.same("11: no bond taken", x.user(0, 0), 80);
         EXPECT.same("11: right ahead of A", x.before(0, 0, 4), 0);
-        CoinChild y = handedOn(8);
+        CoinChild y = Chains.handedOn(8);
         y.exit(0, 0, 1);
         EXPECT.same("11: a deposit has nothing ahead", y.before(1, 0, 1), CoinChild.UNPROVEN);
     }
 
     private static void beforeOfPoorUser() {
-        CoinChild x = handedOn(8);
+        CoinChild x = Chains.handedOn(8);
         x.deposit(1, 50);
         x.deposit(1, 48);
         x.exit(3, 0, 4);
@@ -266,7 +256,7 @@ public final class ExitTest {
     }
 
     private static void answerPaysTheExiter() {
-        CoinChild x = handedOn(8);
+        CoinChild x = Chains.handedOn(8);
         x.exit(3, 0, 4);
         x.before(0, 0, 1);
         x.before(0, 0, 2);
@@ -283,7 +273,7 @@ public final class ExitTest {
     }
 
     private static void answerRefuses() {
-        CoinChild x = handedOn(8);
+        CoinChild x = Chains.handedOn(8);
         EXPECT.same("12: none open", x.answer(0, 1, 2), CoinChild.NOT_SO);
         x.exit(3, 0, 4);
         EXPECT.same("12: no challenge", x.answer(0, 1, 2), CoinChild.NOT_SO);
@@ -308,8 +298,8 @@ public final class ExitTest {
         x.deposit(0, 20);
         x.forge(0, 1, 2, 2, 2);
         x.build(false, true);
-        transfer(x, 2, 2, 3);
-        transfer(x, 1, 0, 1);
+        Chains.transfer(x, 2, 2, 3);
+        Chains.transfer(x, 1, 0, 1);
         EXPECT.same("12: exit on stolen ground", x.exit(3, 0, 3), 0);
         EXPECT.same("12: challenge", x.before(0, 0, 1), 0);
         EXPECT.same("12: spends it, but later than A", x.answer(0, 1, 4), CoinChild.UNPROVEN);
@@ -320,7 +310,7 @@ public final class ExitTest {
     }
 
     private static void finaliseLetsGo() {
-        CoinChild x = handedOn(8);
+        CoinChild x = Chains.handedOn(8);
         EXPECT.same("13: none open", x.finalise(0), CoinChild.NOT_SO);
         EXPECT.same("13: coin", x.finalise(-1), CoinChild.BAD);
         EXPECT.same("13: coin", x.finalise(1), CoinChild.BAD);
@@ -341,7 +331,7 @@ public final class ExitTest {
     }
 
     private static void finaliseGivesToTheLeastBlock() {
-        CoinChild x = handedOn(8);
+        CoinChild x = Chains.handedOn(8);
         x.exit(3, 0, 4);
         x.before(2, 0, 2);
         x.before(1, 0, 1);
@@ -364,8 +354,8 @@ public final class ExitTest {
     }
 
     private static void cancelGivesBondsBack() {
-        CoinChild x = handedOn(8);
-        transfer(x, 4, 3, 0);
+        CoinChild x = Chains.handedOn(8);
+        Chains.transfer(x, 4, 3, 0);
         x.exit(3, 0, 4);
         x.before(1, 0, 1);
         x.before(1, 0, 2);
@@ -377,8 +367,8 @@ public final class ExitTest {
     }
 
     private static void newExitForgetsTheOldChallenges() {
-        CoinChild x = handedOn(8);
-        transfer(x, 4, 3, 0);
+        CoinChild x = Chains.handedOn(8);
+        Chains.transfer(x, 4, 3, 0);
         x.exit(3, 0, 4);
         x.before(1, 0, 1);
         x.before(1, 0, 2);

@@ -19,12 +19,6 @@ public final class WatchTest {
         EXPECT.end();
     }
 
-    /** Puts a good transfer of coin 0 into a block of its own. */
-    private static void transfer(CoinChild x, int prev, int from, int to) {
-        x.forge(0, prev, from, to, from);
-        x.build(false, true);
-    }
-
     private static void refusesNoUser() {
         CoinChild x = new CoinChild(1, 8);
         EXPECT.same("14: user", x.watch(-1), CoinChild.BAD);
@@ -81,8 +75,8 @@ public final class WatchTest {
         CoinChild x = new CoinChild(1, 8);
         x.deposit(0, 5);
         x.build(true, true);
-        transfer(x, 1, 0, 1);
-        transfer(x, 3, 1, 2);
+        Chains.transfer(x, 1, 0, 1);
+        Chains.transfer(x, 3, 1, 2);
         x.accept(2, 0);
         x.exit(0, 0, 1);
         EXPECT.same("14: after, with the next", x.watch(2), 1);
@@ -94,10 +88,10 @@ public final class WatchTest {
     private static void challengesADoubleSpend() {
         CoinChild x = new CoinChild(1, 8);
         x.deposit(0, 5);
-        transfer(x, 1, 0, 1);
-        transfer(x, 2, 1, 2);
+        Chains.transfer(x, 1, 0, 1);
+        Chains.transfer(x, 2, 1, 2);
         x.accept(2, 0);
-        transfer(x, 1, 0, 3);
+        Chains.transfer(x, 1, 0, 3);
         x.exit(3, 0, 4);
         EXPECT.same("14: between, with the next of A", x.watch(2), 1);
         EXPECT.same("14: cancelled", x.coin(0, 2), 0);
@@ -109,7 +103,7 @@ public final class WatchTest {
         x.deposit(0, 5);
         x.forge(0, 1, 2, 2, 2);
         x.build(false, true);
-        transfer(x, 2, 2, 3);
+        Chains.transfer(x, 2, 2, 3);
         x.exit(3, 0, 3);
         EXPECT.same("14: before, with h", x.watch(0), 1);
         EXPECT.same("14: open", x.coin(0, 6), 1);
@@ -123,15 +117,15 @@ public final class WatchTest {
     private static void leavesASpendingOfItsOwn() {
         CoinChild x = new CoinChild(1, 8);
         x.deposit(0, 5);
-        transfer(x, 1, 0, 1);
+        Chains.transfer(x, 1, 0, 1);
         x.exit(1, 0, 2);
         EXPECT.same("14: held since A", x.user(0, 1), 1);
         EXPECT.same("14: A is h", x.watch(0), 0);
         EXPECT.same("14: open", x.coin(0, 2), 2);
         CoinChild y = new CoinChild(1, 8);
         y.deposit(0, 5);
-        transfer(y, 1, 0, 1);
-        transfer(y, 1, 0, 2);
+        Chains.transfer(y, 1, 0, 1);
+        Chains.transfer(y, 1, 0, 2);
         y.exit(2, 0, 3);
         EXPECT.same("14: A is h, though BETWEEN would do", y.watch(0), 0);
         EXPECT.same("14: open", y.coin(0, 2), 3);
@@ -141,8 +135,8 @@ public final class WatchTest {
     private static void challengesItsOwnOldExit() {
         CoinChild x = new CoinChild(1, 8);
         x.deposit(0, 5);
-        transfer(x, 1, 0, 1);
-        transfer(x, 2, 1, 0);
+        Chains.transfer(x, 1, 0, 1);
+        Chains.transfer(x, 2, 1, 0);
         x.accept(0, 0);
         x.exit(0, 0, 1);
         EXPECT.same("14: its own, but not for h", x.watch(0), 1);
@@ -153,10 +147,10 @@ public final class WatchTest {
     private static void answersAllChallenges() {
         CoinChild x = new CoinChild(1, 8);
         x.deposit(0, 5);
-        transfer(x, 1, 0, 1);
+        Chains.transfer(x, 1, 0, 1);
         x.build(true, true);
-        transfer(x, 2, 1, 2);
-        transfer(x, 4, 2, 3);
+        Chains.transfer(x, 2, 1, 2);
+        Chains.transfer(x, 4, 2, 3);
         x.accept(3, 0);
         x.exit(3, 0, 5);
         x.before(0, 0, 2);
@@ -172,12 +166,12 @@ public final class WatchTest {
     private static void refusedCallsDoNotCount() {
         CoinChild x = new CoinChild(1, 8);
         x.deposit(0, 5);
-        transfer(x, 1, 0, 1);
-        transfer(x, 2, 1, 2);
+        Chains.transfer(x, 1, 0, 1);
+        Chains.transfer(x, 2, 1, 2);
         x.accept(2, 0);
         x.forge(0, 3, 3, 3, 3);
         x.build(false, true);
-        transfer(x, 4, 3, 1);
+        Chains.transfer(x, 4, 3, 1);
         x.exit(1, 0, 5);
         x.tick(5);
         EXPECT.same("14: too late", x.watch(2), 0);
@@ -185,10 +179,10 @@ public final class WatchTest {
         y.deposit(0, 5);
         y.forge(0, 1, 0, 3, 3);
         y.build(false, true);
-        transfer(y, 1, 0, 1);
+        Chains.transfer(y, 1, 0, 1);
         y.build(false, true);
         EXPECT.same("14: an unsound history is not accepted", y.accept(1, 0), CoinChild.NOT_SO);
-        transfer(y, 3, 1, 2);
+        Chains.transfer(y, 3, 1, 2);
         y.exit(1, 0, 3);
         EXPECT.same("14: A is h", y.watch(0), 0);
         EXPECT.same("14: open", y.coin(0, 3), 3);
