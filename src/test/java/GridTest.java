@@ -3,9 +3,9 @@ import java.util.Arrays;
 import java.util.List;
 
 /**
- * In some states that are full of cases, every call with every mixture of numbers in and out of
- * bounds: its answer beside that of Model, and that a refused call changes nothing, neither what
- * can be seen at once nor what comes out by later calls.
+ * In some states that are full of cases, every call that can change something, with mixtures of
+ * chosen numbers in and out of bounds: its answer beside that of Model, and that a refused call
+ * changes nothing, neither what can be seen at once nor what comes out by later calls.
  */
 public final class GridTest {
     private static final Expect EXPECT = new Expect("GridTest");
