@@ -399,8 +399,8 @@ public final class CoinChild {
 
     /** The first block later than b that has an entry of the coin; 0 when there is none. */
     private int nextOf(int c, int b) {
-        for (int n = Math.max(b, 0) + 1; n <= BLOCKS; n++) {
-            if (entryIn(n, c) != null) {
+        for (int n = 1; n <= BLOCKS; n++) {
+            if (n > b && entryIn(n, c) != null) {
                 return n;
             }
         }
@@ -418,9 +418,9 @@ public final class CoinChild {
     }
 
     private boolean isWithheldAfter(int b) {
-        for (int n = Math.max(b, 0) + 1; n <= BLOCKS; n++) {
+        for (int n = 1; n <= BLOCKS; n++) {
             Block later = blockAt(n);
-            if (later != null && !later.shown) {
+            if (n > b && later != null && !later.shown) {
                 return true;
             }
         }
@@ -434,8 +434,8 @@ public final class CoinChild {
         if (first == null || !first.deposit) {
             return false;
         }
-        for (int b = ahead + 1; b <= BLOCKS; b++) {
-            if (entryIn(b, c) != null) {
+        for (int b = 1; b <= BLOCKS; b++) {
+            if (b > ahead && entryIn(b, c) != null) {
                 if (!spends(c, b, ahead)) {
                     return false;
                 }
